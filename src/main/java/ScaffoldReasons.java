@@ -219,7 +219,8 @@ public final class ScaffoldReasons {
             return NO_SUCH;
         }
         for (int i = 0; i < script.clauseCount; i++) {
-            if (!playClause(script, i)) {
+            boolean isDone = script.kindOf(i) == W_HOUR ? playHours(script.firstOf(i)) : playMove(script, i);
+            if (!isDone) {
                 return i;
             }
         }
@@ -712,7 +713,7 @@ public final class ScaffoldReasons {
         return Integer.bitCount(falling);
     }
 
-    private boolean playClause(Script script, int clause) {
+    private boolean playMove(Script script, int clause) {
         int first = script.firstOf(clause);
         int second = script.secondOf(clause);
         switch (script.kindOf(clause)) {
@@ -728,8 +729,6 @@ public final class ScaffoldReasons {
                 return objecting(first, second, true, true);
             case W_DROP:
                 return objecting(first, second, false, true);
-            case W_HOUR:
-                return playHours(first);
             default:
                 return true;
         }
@@ -1484,24 +1483,39 @@ public final class ScaffoldReasons {
                     push(named(kind));
                 } else if (kind == C_SKIP || kind == C_SKIP_UNLESS && pop() == 0) {
                     at = Math.max(at, value);
+                } else if (kind == C_OPPOSITE || kind == W_HEAVY || kind == W_NOT) {
+                    performOnOne(kind);
                 } else if (kind != C_SKIP_UNLESS) {
-                    perform(kind);
+                    performOnTwo(kind);
                 }
             }
             return pop();
         }
 
-        private void perform(int kind) {
+        private void performOnOne(int kind) {
+            int only = pop();
             if (kind == C_OPPOSITE) {
-                push(-pop());
+                push(-only);
             } else if (kind == W_HEAVY) {
-                push(weightOf(site, pop()));
-            } else if (kind == W_NOT) {
-                push(1 - pop());
+                push(weightOf(site, only));
             } else {
-                int right = pop();
-                int left = pop();
-                push(kind <= W_AND ? joined(kind, left, right) : reckoned(kind, left, right));
+                push(1 - only);
+            }
+        }
+
+        private void performOnTwo(int kind) {
+            int right = pop();
+            int left = pop();
+            if (kind == W_BITS) {
+                push(Math.abs(left) & Math.abs(right));
+            } else if (kind == W_OR) {
+                push(left | right);
+            } else if (kind == W_AND) {
+                push(left & right);
+            } else if (kind >= S_PLUS && kind <= S_BY) {
+                push(within(reckoned(kind, left, right), -VALUE_MOST, VALUE_MOST));
+            } else {
+                push(compared(kind, left, right) ? 1 : 0);
             }
         }
 
@@ -1528,44 +1542,38 @@ public final class ScaffoldReasons {
             }
         }
 
-        private static int joined(int kind, int left, int right) {
-            if (kind == W_BITS) {
-                return Math.abs(left) & Math.abs(right);
-            }
-            return kind == W_OR ? left | right : left & right;
-        }
-
-        private static int reckoned(int kind, int left, int right) {
+        private static long reckoned(int kind, long left, long right) {
             switch (kind) {
                 case S_PLUS:
-                    return clipped((long) left + right);
+                    return left + right;
                 case S_MINUS:
-                    return clipped((long) left - right);
+                    return left - right;
                 case S_TIMES:
-                    return clipped((long) left * right);
-                case S_BY:
-                    return right == 0 ? 0 : left / right;
-                case S_LESS:
-                    return left < right ? 1 : 0;
-                case S_MORE:
-                    return left > right ? 1 : 0;
-                case S_LIKE:
-                    return left == right ? 1 : 0;
-                case S_UNLIKE:
-                    return left != right ? 1 : 0;
-                case S_AT_MOST:
-                    return left <= right ? 1 : 0;
+                    return left * right;
                 default:
-                    return left >= right ? 1 : 0;
+                    return right == 0 ? 0 : left / right;
             }
         }
 
-        private static int clipped(long value) {
-            return (int) Math.max(-VALUE_MOST, Math.min(VALUE_MOST, value));
+        private static boolean compared(int kind, int left, int right) {
+            switch (kind) {
+                case S_LESS:
+                    return left < right;
+                case S_MORE:
+                    return left > right;
+                case S_LIKE:
+                    return left == right;
+                case S_UNLIKE:
+                    return left != right;
+                case S_AT_MOST:
+                    return left <= right;
+                default:
+                    return left >= right;
+            }
         }
 
-        private static int within(int value, int least, int most) {
-            return Math.max(least, Math.min(most, value));
+        private static int within(long value, int least, int most) {
+            return (int) Math.max(least, Math.min(most, value));
         }
 
         private static int weightOf(Site site, int plank) {
