@@ -83,6 +83,7 @@ public final class PromisesTest {
         planks();
         tape();
         textsAndFaults();
+        leftovers();
         tokens();
         sums();
         asks();
@@ -215,6 +216,10 @@ public final class PromisesTest {
         due("the tape of a faulty text", x.about(6), 0);
         due("fault", x.fault(0), 1);
         due("fault", x.fault(1), 5);
+        due("fault", x.fault(2), NONE);
+        due("fault", x.fault(-1), NONE);
+        due("fault", x.fault(MAX), NONE);
+        due("fault", x.fault(MIN), NONE);
         due("texts", x.about(1), 1);
         for (int i = 1; i < 4; i++) {
             Texts.feed(x, "put 0;");
@@ -235,6 +240,43 @@ public final class PromisesTest {
         due("fault", x.fault(0), 1);
     }
 
+    /** What a faulty text or the end of a tape leaves behind must not come into the next text. */
+    private static void leftovers() {
+        promise = "4, 5 (leftovers)";
+        ScaffoldReasons x = free(1);
+        String longLaw = "puts 1" + "+1".repeat(120);
+        for (int i = 0; i < 5; i++) {
+            due("faulty", Texts.tell(x, longLaw), NONE);
+            due("faulty", Texts.tell(x, "puts 9;falls 9;put 0;put 0;x"), NONE);
+        }
+        due("text", Texts.tell(x, longLaw + ";"), 0);
+        x.by(0);
+        due("its law", x.of(0, 5), 99);
+        due("without falls", x.of(0, 6), 0);
+        due("its clauses", x.played(0), NONE);
+        due("its clauses", x.is(3), 0);
+        Texts.feed(x, "put 77;");
+        x.end(5);
+        due("text", x.text(), NONE);
+        due("at the end", x.fault(0), 1);
+        due("at the end", x.fault(1), 5);
+        Texts.feed(x, "put 0;;");
+        x.end(6);
+        due("text", x.text(), 1);
+        x.image();
+        x.plank(7, 1);
+        x.object(0, 0, true);
+        x.put(0);
+        x.put(1);
+        x.back();
+        x.end(0);
+        due("text", Texts.tell(x, "puts heavy 1;falls load+up;"), 2);
+        x.by(2);
+        due("a plank that isn't told any more", x.of(0, 5), 0);
+        due("a plank that isn't told any more", x.of(0, 6), 0);
+        due("over", x.over(0), 0);
+    }
+
     private static void tokens() {
         promise = "5, 6 (tokens)";
         fine("");
@@ -250,6 +292,19 @@ public final class PromisesTest {
         faulty("putS 0;", 1, 0);
         faulty("pu t 0;", 1, 0);
         faulty("put0x;", 1, 4);
+        String[] letters = {"a", "z", "A", "Z"};
+        for (String letter : letters) {
+            faulty("put" + letter + " 0;", 1, 0);
+        }
+        String[] noLetters = {"`", "{", "@", "["};
+        for (String sign : noLetters) {
+            faulty("put" + sign + " 0;", 1, 3);
+        }
+        faulty("put 0:", 1, 5);
+        faulty("put 0/", 1, 5);
+        faulty("puts if no 1=1 then 1 else 0 end;", 1, 8);
+        faulty("puts if nott 1=1 then 1 else 0 end;", 1, 8);
+        faulty("puts if nob 1=1 then 1 else 0 end;", 1, 8);
         faulty("puts 1<2;", 1, 6);
         faulty("puts if 1<=2 then 1 else 0 end", 1, 30);
         fine("puts if 1<=2 then 1 else 0 end;");
@@ -674,6 +729,10 @@ public final class PromisesTest {
             x.hour(60);
         }
         due("HOUR", x.is(0), 9960);
+        x.image();
+        due("just up to 9999", x.hour(39), 0);
+        due("HOUR", x.is(0), 9999);
+        due("back", x.back(), 9960);
         due("beyond", x.hour(40), NONE);
         due("X stays", x.hour(41), NONE);
         due("HOUR", x.is(0), 9960);
@@ -765,6 +824,19 @@ public final class PromisesTest {
         due("undo", x.undo(), 2);
         due("HOUR", x.is(0), 1);
 
+        // By 341, 347 and 349 (what 5, 4 and 6) X is 17700, 21258 and 22444, of which WIND is drawn.
+        int[][] seeds = {{2, 0}, {5, 8}, {6, 4}};
+        for (int[] s : seeds) {
+            x = new ScaffoldReasons();
+            due("an hour", x.years(s[0], 1), 1);
+            due("its wind", x.is(2), s[1]);
+        }
+        // By 10587 (s = 5125, what 3) of 5 planks 2 objects to 1512 mod 5 = 2.
+        x = free(5);
+        x.years(5125, 1);
+        due("objects", x.of(2, 3), 4);
+        due("at odds", x.atOdds(), 4);
+
         // 22372 = 337 + 2 * s has no s; 26239: s = 12951 is too much; 550: none; 17073: s = 8368, what 0.
         x = free(4);
         due("put up", x.years(8368, 1), 0);
@@ -843,6 +915,9 @@ public final class PromisesTest {
         due("undo", x.undo(), NONE);
         due("the book as it was", x.book(NONE, 0), 10);
         due("the book as it was", x.ledger(0), 5);
+        for (int i = 0; i < 10; i++) {
+            due("the book's lines", x.book(i, 2), i % 2);
+        }
     }
 
     private static void ofAndIs() {
@@ -1036,6 +1111,8 @@ public final class PromisesTest {
         promise = "24, 25, 27";
         sets("of none", preferred(free(0)), 0);
         sets("of none", naive(free(0)), 0);
+        sets("of free ones", preferred(free(3)), 7);
+        sets("of free ones", naive(free(3)), 7);
         ScaffoldReasons x = free(3);
         objections(x, 1, 12, 20);
         sets("of a ring of three", preferred(x), 0);
@@ -1377,11 +1454,14 @@ public final class PromisesTest {
         due("points", x.winner(1), 1);
         due("first ones", x.winner(2), 3);
         due("top", x.top(), 2);
+        due("lead", x.lead(1), 123);
         due("score", x.score(1), 3);
         due("score", x.score(0), -1);
         due("score", x.score(2), 1);
         x.vote(NONE);
-        votes(x, 123, 1023);
+        votes(x, 123);
+        due("top", x.top(), 1);
+        votes(x, 1023);
         due("alike: the one that was there", x.agenda(123), 0);
         due("alike: the one that was there", x.agenda(1023), 1);
         due("lead", x.lead(1), 1023);
@@ -1507,6 +1587,13 @@ public final class PromisesTest {
             due("votes", x.beats(0, 3), 0);
             due("falls", x.of(0, 6), 10);
             due("the fault stays", x.fault(0), 0);
+            due("the book's lines", x.book(0, 2), 0);
+            due("the book's lines", x.book(1, 2), 2);
+            due("the book's lines", x.book(2, 1), 2);
+            due("whose", x.whose(), 0);
+            x.said(NONE, 0);
+            x.said(3, 10);
+            due("whose", x.whose(), 1);
             due("undo", x.undo(), 3);
             due("undo", x.undo(), 2);
             due("HOUR", x.is(0), 0);
