@@ -1965,8 +1965,11 @@ public final class ScaffoldReasons {
         static int scoreOf(Site site, int option) {
             int sum = 0;
             for (int other = 0; other < OPTIONS; other++) {
-                if (other != option) {
-                    sum += Integer.signum(margin(site, option, other));
+                int more = other == option ? 0 : margin(site, option, other);
+                if (more > 0) {
+                    sum++;
+                } else if (more < 0) {
+                    sum--;
                 }
             }
             return sum;

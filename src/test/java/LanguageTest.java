@@ -48,7 +48,7 @@ import javax.tools.ToolProvider;
 public final class LanguageTest {
     private static final Path SOURCE = Path.of("src/main/java/ScaffoldReasons.java");
     private static final Set<String> LIBRARY = Set.of("String.length", "String.charAt", "String.indexOf", "Integer.bitCount",
-            "Integer.signum", "Math.max", "Math.min", "Math.abs", "System.arraycopy", "Arrays.fill");
+            "Math.max", "Math.min", "Math.abs", "System.arraycopy", "Arrays.fill");
     private static final Set<String> STATIC_TYPES = Set.of("int", "long", "boolean", "char", "String",
             "int[]", "long[]", "char[]", "byte[]");
     private static int wrong;
