@@ -1210,6 +1210,11 @@ public final class PromisesTest {
         due("the first", x.repair(1, false), 1);
         due("one", x.repair(3, true), 1);
         due("one", x.repair(3, false), 33);
+        // By 01 plank 1 is free of 0, by 02 (the very next one) plank 2 is, and answers 3 and 4.
+        x = free(5);
+        objections(x, 1, 2, 31, 41, 23, 24);
+        due("two that stand next to one another", x.repair(1, true), 2);
+        due("the first", x.repair(1, false), 1);
     }
 
     private static void heaviest() {
@@ -1470,6 +1475,13 @@ public final class PromisesTest {
         due("score", x.score(0), 2);
         due("points alike", x.winner(1), NONE);
         due("pairs", x.winner(0), NONE);
+        // 2 loses to 0 alone and 0 is alike with 1, so 1 is left just when 3, alike with 2, is there first.
+        x.vote(NONE);
+        votes(x, 213, 321, 1032, 2103);
+        due("lead", x.lead(0), 123);
+        due("the last agenda of all", x.lead(1), 3210);
+        due("lead", x.lead(2), 1023);
+        due("lead", x.lead(3), NONE);
     }
 
     private static void saying() {
