@@ -183,9 +183,16 @@ final class BoundsOfCalls extends Bounds {
         due("a fault", x.text(), NONE);
         due("its tape is empty then", x.about(6), 0);
         due("no text", x.about(1), 0);
+        Texts.tell(x, "falls 5;puts 5;hour 1;?");
         for (int i = 0; i < 4; i++) {
             due("text", x.text(), i);
         }
+        due("nothing of the faulty one is left in it", x.played(0), NONE);
+        due("nothing of the faulty one is left in it", x.is(0), 0);
+        x.by(0);
+        x.plank(5, 0);
+        due("nothing of the faulty one is left in it", x.of(0, 5), 1);
+        due("nothing of the faulty one is left in it", x.of(0, 6), 0);
         Texts.feed(x, "hour 1;");
         due("there are 4", x.text(), NONE);
         due("the tape stays", x.about(6), 7);

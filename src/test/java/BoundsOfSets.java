@@ -245,6 +245,10 @@ final class BoundsOfSets extends Bounds {
         // 4 objects to 3; 1 and 2 would answer it, were 0 not objecting to both.
         x = objecting(free(5), 43, 14, 24, 2, 1);
         due("then by the other one", x.repair(3, false), 1);
+        // By 01 plank 1 is free of 0; by 02, the very next one, 2 is, and answers 3 and 4.
+        x = objecting(free(5), 1, 2, 31, 41, 23, 24);
+        due("two that stand next to one another", x.repair(1, true), 2);
+        due("the first of them", x.repair(1, false), 1);
         x = objecting(free(3), 0, 1, 10, 11);
         due("to itself", x.repair(0, true), 2);
         due("to itself", x.repair(0, false), 0);

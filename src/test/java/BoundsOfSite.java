@@ -584,7 +584,7 @@ final class BoundsOfSite extends Bounds {
     static void backToAll() {
         sentence(TERMS, "BACK: all is so again");
         ScaffoldReasons x = objecting(up(house(), 0, 1, 2), 1, 22);
-        ruled(x, "falls 1;");
+        ruled(x, "falls number+1;");
         x.vote(3210);
         x.said(0, 1);
         x.hour(1);
@@ -596,15 +596,28 @@ final class BoundsOfSite extends Bounds {
             x.by(NONE);
             x.vote(NONE);
             x.vote(123);
-            x.said(1, 1);
+            x.said(NONE, 0);
+            x.said(1, 9);
             x.years(99, 40);
             x.object(3, 3, true);
+            // More steps than are kept, so that none of the image's is left but in the image.
+            x.hour(40 + i);
             x.back();
             same("back", seen(x), before);
+            due("what was said is so again", x.whose(), 1);
         }
         due("the steps too", x.undo(), 5);
         due("HOUR", x.is(0), 0);
         due("undo", x.undo(), 4);
         due("objections", x.of(2, 3), 0);
+        due("undo", x.undo(), 3);
+        due("undo", x.undo(), 2);
+        due("undo", x.undo(), 1);
+        due("up", x.is(3), 1);
+        due("undo", x.undo(), 0);
+        due("up", x.is(3), 0);
+        due("HOUR", x.is(0), 0);
+        due("X", x.is(1), 337);
+        due("undo", x.undo(), NONE);
     }
 }

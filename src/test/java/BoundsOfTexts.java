@@ -229,6 +229,8 @@ final class BoundsOfTexts extends Bounds {
         sentence(TERMS, "BOTH: ASK {and ASK}");
         puts("if 1=1 and 1=1 and 1=1 then 2 else 3 end", 2);
         puts("if 1=1 and 1=1 and 1=2 then 2 else 3 end", 3);
+        puts("if 1=2 and 1=1 and 1=1 then 2 else 3 end", 3);
+        puts("if 1=2 and 1=1 then 2 else 3 end", 3);
         puts("if 1=2 and 1=1 or 1=1 then 2 else 3 end", 2);
         faulty("puts if 1=1 and then 2 else 3 end;", 1, 16);
         faulty("puts if and 1=1 then 2 else 3 end;", 1, 8);
@@ -405,6 +407,9 @@ final class BoundsOfTexts extends Bounds {
         faulty("put -1;", 1, 4);
         faulty("put (0);", 1, 4);
         faulty("put 0 on 1;", 1, 6);
+        faulty("plank 1;", 1, 7);
+        faulty("object 1;", 1, 8);
+        faulty("drop 1;", 1, 6);
         faulty("plank 1 to 9;", 1, 8);
         faulty("object 0 on 1;", 1, 9);
         faulty("drop 0 1;", 1, 7);
